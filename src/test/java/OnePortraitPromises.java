@@ -758,10 +758,10 @@ public final class OnePortraitPromises {
         due("seven calm of 20", x.gales(0, 7, 20, 5, 0), 893871739L);
         due("seven calm of 20", x.gales(0, 7, 20, 5, 1), 1280000000L);
         x.grieves(0, 0);
-        // the last week calm: 0; a gale in it: at least 1
-        due("the last calm", x.gales(0, 7, 20, 0, 0), 19);
-        due("the last calm", x.gales(0, 7, 20, 0, 1), 20);
-        // all gales but one in 20 to the seventh
+        // the last week calm: 0, as four gales ahead are eased by 5; a gale in it: at least 1
+        due("the last calm", x.gales(0, 5, 20, 0, 0), 19);
+        due("the last calm", x.gales(0, 5, 20, 0, 1), 20);
+        // of 20 to the seventh skies all but the one of seven gales
         due("not seven gales", x.gales(0, 7, 20, 6, 0), 1279999999L);
         due("not seven gales", x.gales(0, 7, 20, 6, 1), 1280000000L);
         due("no such widow", x.gales(1, -1, 1, -1, 2), LONGS + 1);
