@@ -733,6 +733,8 @@ public final class OnePortraitPromises {
         // as if 3 less is not cut at 0, and as much is no better: a comfort of 2 and one of 3
         due("grief of 0", told("w400006;w004006;r9;").two(0, 1, 1), 11);
         due("1 less and 1 not more: 2 below 3", told("w414006;w004006;r0;").two(0, 1, 1), 11);
+        // sent on by the smoker, EYE stays 20 and comforts 2: keeping is as good as sending; else it comforts 1
+        due("what the other does counts", told("w004006;w204006;r1;r0;m020;m100;").two(0, 1, 2), 1);
         due("2 less and 1 not more: as much", told("w424006;w004006;r0;").two(0, 1, 1), 1);
     }
 
