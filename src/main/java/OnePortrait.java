@@ -108,18 +108,10 @@ public final class OnePortrait {
             case 'g':
                 return mind.setGrief(text.number(place + 1, 1), text.number(place + 2, 2));
             case 'k':
-                return weeksStand(text.number(place + 1, 2));
+                return mind.letPass(text.number(place + 1, 2));
             default:
                 return false;
         }
-    }
-
-    private boolean weeksStand(int n) {
-        if (n < 1 || n > AHEAD || mind.week + n > LAST_WEEK) {
-            return false;
-        }
-        mind.passWeeks(n);
-        return true;
     }
 
     // ---- I: what is so ----
@@ -1070,7 +1062,7 @@ public final class OnePortrait {
                 return 0;
             }
             int plain = sight[EYE] / 20 + 1;
-            int onDay = isDayOf(w) ? 10 : 0;
+            int onDay = day[w] == week % DAYS ? 10 : 0;
             switch (kind[w]) {
                 case WEEPER:
                     return plain + 2 + onDay;
@@ -1087,10 +1079,18 @@ public final class OnePortrait {
             }
         }
 
-        boolean isDayOf(int w) {
-            return dayOf(w) == week % DAYS;
+        /** Whether so many WEEKS can go by; only then they do. */
+        boolean letPass(int n) {
+            if (n < 1 || n > AHEAD || week + n > LAST_WEEK) {
+                return false;
+            }
+            for (int i = 0; i < n; i++) {
+                passWeek(false);
+            }
+            return true;
         }
 
+        /** However far: in mind WEEK may pass 999. */
         void passWeeks(int n) {
             for (int i = 0; i < n; i++) {
                 passWeek(false);
@@ -1115,7 +1115,7 @@ public final class OnePortrait {
             if (!hasWidow(w)) {
                 return;
             }
-            if (isDayOf(w) && met[w] < TOP) {
+            if (day[w] == week % DAYS && met[w] < TOP) {
                 met[w]++;
             }
             grief[w] = Math.max(0, grief[w] - comfortOf(w));
