@@ -574,6 +574,10 @@ public final class OnePortraitEdges {
         due("WEEK 60", told("w000000;r9;r9;r9;r9;r0;r9;r9;").dayMet(0), -9);
         due("met once is as new", toldAt(61, "w000001;", "r0;k01;").dayMet(0), 12);
         due("never", told("w000001;r0;r9;").dayMet(0), -9);
+        OnePortrait x = told("w000001;r0;");
+        due("now", x.dayMet(0), 2);
+        due("as it was", x.dayMet(0), 2);
+        due("MET stays", x.widowOf(0, 4), 0);
     }
 
     private static void like() {
@@ -712,6 +716,7 @@ public final class OnePortraitEdges {
         due("bestRota(-1)", x.bestRota(-1), 1);
         x.grieves(1, 51);
         due("bestRota(0), 1 more", x.bestRota(0), 1);
+        due("bestRota(-1), the other is not met", x.bestRota(-1), 1);
         due("bestRota(1)", x.bestRota(1), 9);
         due("bestRota(10), GRIEF 0", x.bestRota(10), 3);
         due("bestRota(11)", x.bestRota(11), 2);
@@ -748,6 +753,10 @@ public final class OnePortraitEdges {
         due("seven", y.whoHad(2), 127);
         tell(y, "r9;r9;");
         due("whatever the ROTA is", y.whoHad(2), 127);
+        row(y, 90, 89, 88, 87);
+        due("at all places", y.whoHad(2), 127);
+        row(y, 90, 89, 89);
+        due("at the first alone", y.whoHad(2), 0);
     }
 
     private static void whatKind() {
@@ -789,6 +798,13 @@ public final class OnePortraitEdges {
         due("GRIEF 99, comfort 3", told("w439906;w005006;r0;").two(0, 1, 1), 1);
         due("n 0", told("w495006;w005006;r0;").two(0, 1, 0), 11);
         due("n 60", told("w495006;w495006;r0;r1;").two(0, 1, 60), 0);
+        // in the second WEEK EYE 20 comforts the first 2: kept 49, as sent on; EYE 19 but 1. The other, comforted 0, sends
+        due("EYE 21", told("w005006;w205006;r1;r0;m021;m100;").two(0, 1, 2), 1);
+        due("EYE 20, as it was", told("w005006;w205006;r1;r0;m020;m100;").two(0, 1, 2), 1);
+        due("EYE 19", told("w005006;w205006;r1;r0;m019;m100;").two(0, 1, 2), 11);
+        // the other, comforted 19, keeps: EYE is 2 more by her
+        due("EYE 20 by the other", told("w005006;w495000;r1;r0;m018;").two(0, 1, 2), 0);
+        due("EYE 19 by the other", told("w005006;w495000;r1;r0;m017;").two(0, 1, 2), 10);
         due("no turn of either", told("w495006;w495006;r9;").two(0, 1, 60), 11);
     }
 
