@@ -50,7 +50,7 @@ public final class OnePortrait {
         hasPicture = false;
         past = new Past();
         text = new Text();
-        numbers = new Numbers();
+        numbers = new Numbers(ROW);
         refusals = new int[7];
     }
 
@@ -94,7 +94,7 @@ public final class OnePortrait {
 
     /** Whether the STATEMENT at a place of the text is as it must be; it is done in mind then. */
     private boolean stands(int place) {
-        switch (text.letterAt(place)) {
+        switch (text.at(place)) {
             case 'w':
                 return mind.addWidow(text.number(place + 1, 1), text.number(place + 2, 1),
                         text.number(place + 3, 2), text.number(place + 5, 2));
@@ -1249,31 +1249,38 @@ public final class OnePortrait {
         }
     }
 
-    /** The letters that came. */
-    private static final class Text {
-        private final int[] letters;
-        private int length;
+    /** Numbers as they came, up to a bound: the ROW, and letters. */
+    private static class Numbers {
+        private final int[] values;
+        int length;
 
-        Text() {
-            letters = new int[LETTERS];
+        Numbers(int room) {
+            values = new int[Math.max(0, room)];
             length = 0;
         }
 
-        int add(int letter) {
-            if (length >= 0 && length < LETTERS) {
-                letters[length] = letter;
+        int add(int v) {
+            if (length >= 0 && length < values.length) {
+                values[length] = v;
                 length++;
             }
             return length;
         }
 
-        int letterAt(int place) {
-            return place >= 0 && place < length && place < LETTERS ? letters[place] : -1;
+        int at(int i) {
+            return i >= 0 && i < length && i < values.length ? values[i] : -1;
+        }
+    }
+
+    /** The letters that came, and how STATEMENTS stand in them. */
+    private static final class Text extends Numbers {
+        Text() {
+            super(LETTERS);
         }
 
         /** How many digits the STATEMENT that begins there has; -1 if none can begin so. */
         int digitsAt(int place) {
-            switch (letterAt(place)) {
+            switch (at(place)) {
                 case 'w':
                     return 6;
                 case 'm':
@@ -1293,7 +1300,7 @@ public final class OnePortrait {
         int number(int place, int digits) {
             int value = 0;
             for (int i = 0; i < digits; i++) {
-                value = 10 * value + letterAt(place + i) - '0';
+                value = 10 * value + at(place + i) - '0';
             }
             return value;
         }
@@ -1302,7 +1309,7 @@ public final class OnePortrait {
         int firstBadPlace() {
             int digitsDue = -1;
             for (int place = 0; place < length; place++) {
-                int letter = letterAt(place);
+                int letter = at(place);
                 if (digitsDue < 0) {
                     digitsDue = digitsAt(place);
                     if (digitsDue < 0) {
@@ -1321,29 +1328,6 @@ public final class OnePortrait {
                 }
             }
             return digitsDue < 0 && length > 0 ? -1 : length;
-        }
-    }
-
-    /** The ROW. */
-    private static final class Numbers {
-        private final int[] values;
-        private int length;
-
-        Numbers() {
-            values = new int[ROW];
-            length = 0;
-        }
-
-        int add(int v) {
-            if (length >= 0 && length < ROW) {
-                values[length] = v;
-                length++;
-            }
-            return length;
-        }
-
-        int at(int i) {
-            return i >= 0 && i < length && i < ROW ? values[i] : -1;
         }
     }
 }
