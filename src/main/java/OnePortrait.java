@@ -185,7 +185,7 @@ public final class OnePortrait {
         if (place >= PLACES) {
             return refuse(ROOM);
         }
-        int was = place < now.places ? now.whoseIs(place) : CHAPEL;
+        int was = now.whoseIs(place);
         past.keep(now);
         now.setPlace(place, widow);
         return was;
